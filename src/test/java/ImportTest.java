@@ -9,6 +9,7 @@ final class ImportTest {
     public static void main(String[] args) {
         importsWrong();
         importsRuleOne();
+        importsOfWhatIsCompiled();
         importsRuleTwo();
         importsRuleTwoOfMembers();
         importsRuleThree();
@@ -18,6 +19,7 @@ final class ImportTest {
         meaningGrows();
         memberUsable();
         memberHidden();
+        memberFarAbove();
         memberInOrder();
         memberOfTwoFields();
         memberKindsAreApart();
@@ -322,5 +324,35 @@ final class ImportTest {
         due.is("17 kind below", BAD, x.memberOf(0, 0, -1));
         due.is("17 kind above", BAD, x.memberOf(0, 0, 2));
         due.is("17 nothing imported", NONE, x.memberOf(0, 30, METHOD));
+    }
+
+    private static void importsOfWhatIsCompiled() {
+        PackageModules x = new PackageModules();
+        x.module();
+        x.module();
+        x.requires(0, 1, 2);
+        x.pack(0, 0);
+        x.pack(1, 1);
+        x.type(1, 0, 0, 1, NONE);
+        x.member(0, 0, FIELD, true, NONE);
+        x.exports(1, NONE, false);
+        x.unit(0);
+        due.is("15 pack of a static one", 1, x.imports(0, PACK, 1, 0));
+        due.is("16 type of a static one", 0, x.meaning(0, 0));
+        due.is("15 type of a static one", 2, x.imports(0, TYPE, 0, 0));
+        due.is("15 members of a static one", 3, x.imports(0, MEMBERS, 0, 0));
+        due.is("17 member of a static one", 0, x.memberOf(0, 0, FIELD));
+    }
+
+    /** The member is of the first of forty types, each the parent of the next. */
+    private static void memberFarAbove() {
+        PackageModules x = twoModules();
+        x.pack(0, 9);
+        for (int k = 0; k < 40; k++) {
+            x.type(k % 2 * 3, k / 2, 0, 1, k - 1);
+        }
+        x.member(0, 5, FIELD, true, NONE);
+        due.is("15 far above", 1, x.imports(0, MEMBER, 39, 5));
+        due.is("17 far above", 0, x.memberOf(0, 5, FIELD));
     }
 }

@@ -13,7 +13,7 @@ final class ModelTest {
         "looks", "split", "unit", "imports", "meaning", "memberOf", "graph", "has", "provider", "layer",
         "loader", "finds", "count"
     };
-    /** Of a hundred or so calls how many are of each name, while a run builds and after it. */
+    /** How often each name is called, while a run builds and after it. */
     private static final int[] BUILDING = {
         3, 8, 16, 12, 16, 14, 8, 14, 1, 1, 1, 1, 3, 12, 3, 3, 1, 1, 2, 0, 0, 0, 1
     };
@@ -60,7 +60,8 @@ final class ModelTest {
             int[] a = arguments(which);
             int want = plainAnswer(which, a);
             met.merge(NAMES[which] + " " + want, 1, Integer::sum);
-            due.is("run " + run + " call " + call + " " + NAMES[which] + Arrays.toString(a), want, realAnswer(which, a));
+            String told = "run " + run + " call " + call + " " + NAMES[which] + Arrays.toString(a);
+            due.is(told, want, realAnswer(which, a));
         }
     }
 
@@ -116,7 +117,8 @@ final class ModelTest {
             case "module": return new int[] {};
             case "pack": return new int[] {mod(), name()};
             case "type": return new int[] {pack(), name(), flag() * below(4), mostlyOpen(), orNone(plain.count(2))};
-            case "member": return new int[] {type(), flag() * name(), below(2), flag() | flag(), orNone(plain.count(2))};
+            case "member":
+                return new int[] {type(), flag() * name(), below(2), flag() | flag(), orNone(plain.count(2))};
             case "requires": return new int[] {mod(), mod(), below(4)};
             case "exports": return new int[] {pack(), orNone(plain.count(0)), random.nextInt(3) / 2};
             case "uses": return new int[] {mod(), flag() == 0 ? type() : providedType()};

@@ -18,6 +18,8 @@ final class ReadingTest {
         looks();
         split();
         splitOfOthers();
+        longLines();
+        moreThanOneOfEach();
         due.end();
     }
 
@@ -241,5 +243,56 @@ final class ReadingTest {
         due.is("13 sees one", NONE, x.split(0));
         x.requires(0, 3, PLAIN);
         due.is("13 two of others, one through on", 0, x.split(0));
+    }
+
+    /** Twelve modules in a line, by rising and by falling numbers. */
+    private static void longLines() {
+        PackageModules up = withModules(12);
+        PackageModules down = withModules(12);
+        for (int k = 0; k < 11; k++) {
+            due.is("6 up", 1, up.requires(k, k + 1, ON));
+            due.is("6 down", 1, down.requires(11 - k, 10 - k, ON));
+        }
+        for (boolean run : new boolean[] {false, true}) {
+            due.is("10 up to the end", 1, up.reads(0, 11, run));
+            due.is("10 down to the end", 1, down.reads(11, 0, run));
+            due.is("10 not up again", 0, down.reads(0, 11, run));
+            due.is("10 not down again", 0, up.reads(11, 0, run));
+        }
+        due.is("6 ring of twelve, up", -11, up.requires(11, 0, STATIC));
+        due.is("6 ring of twelve, down", -11, down.requires(0, 11, STATIC));
+        due.is("18 all, up", 12, up.graph(0, false));
+        due.is("18 all, down", 12, down.graph(11, false));
+    }
+
+    /** What is told later takes nothing from what was told before. */
+    private static void moreThanOneOfEach() {
+        PackageModules x = withModules(12);
+        x.requires(0, 1, PLAIN);
+        x.requires(1, 2, ON);
+        x.requires(1, 3, ON);
+        x.requires(1, 4, PLAIN);
+        x.requires(1, 5, BOTH);
+        x.requires(6, 1, STATIC);
+        int[] compiled = {1, 1, 1, 1, 0, 1, 0};
+        int[] atRun = {1, 1, 1, 1, 0, 0, 0};
+        for (int other = 0; other < compiled.length; other++) {
+            due.is("10 compiled " + other, compiled[other], x.reads(0, other, false));
+            due.is("10 at the run " + other, atRun[other], x.reads(0, other, true));
+        }
+        x.pack(1, 0);
+        x.type(0, 0, 0, 1, NONE);
+        x.exports(0, 0, false);
+        x.exports(0, 11, false);
+        x.exports(0, 0, true);
+        x.exports(0, 11, true);
+        due.is("11 the first", 1, x.sees(0, 0, false));
+        due.is("12 the first", 1, x.looks(0, 0));
+        due.is("12 the last", 1, x.looks(11, 0));
+        due.is("11 to the last is not to all", 0, x.sees(6, 0, false));
+        due.is("12 to the last is not to all", 0, x.looks(6, 0));
+        x.pack(0, 0);
+        x.pack(0, 1);
+        due.is("13 the least stays, whatever comes behind", 0, x.split(0));
     }
 }

@@ -49,6 +49,8 @@ final class ServiceTest {
         x.type(0, 1, 0, 0, NONE);
         due.is("8 not open", -11, x.uses(0, 1));
         due.is("8 not open, its own", 1, x.uses(1, 1));
+        due.is("8 the first still stands", -18, x.uses(1, 0));
+        due.is("8 the second, too", -18, x.uses(1, 1));
     }
 
     private static void providesWrong() {
