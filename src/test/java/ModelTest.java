@@ -61,7 +61,7 @@ final class ModelTest {
             int want = plainAnswer(which, a);
             met.merge(NAMES[which] + " " + want, 1, Integer::sum);
             String told = "run " + run + " call " + call + " " + NAMES[which] + Arrays.toString(a);
-            due.is(told, want, realAnswer(which, a));
+            due.is(told, want, Calls.answer(real, NAMES[which], a));
         }
     }
 
@@ -191,34 +191,6 @@ final class ModelTest {
         int unit = below(flag() == 0 ? plain.count(4) : Math.min(3, plain.count(4)));
         boolean stray = random.nextInt(60) == 0;
         return new int[] {unit, kind, kind == 1 ? name() : type(), kind == 2 || stray ? flag() * name() : 0};
-    }
-
-    private int realAnswer(int which, int[] a) {
-        switch (NAMES[which]) {
-            case "module": return real.module();
-            case "pack": return real.pack(a[0], a[1]);
-            case "type": return real.type(a[0], a[1], a[2], a[3], a[4]);
-            case "member": return real.member(a[0], a[1], a[2], a[3] == 1, a[4]);
-            case "requires": return real.requires(a[0], a[1], a[2]);
-            case "exports": return real.exports(a[0], a[1], a[2] == 1);
-            case "uses": return real.uses(a[0], a[1]);
-            case "provides": return real.provides(a[0], a[1], a[2]);
-            case "reads": return real.reads(a[0], a[1], a[2] == 1);
-            case "sees": return real.sees(a[0], a[1], a[2] == 1);
-            case "looks": return real.looks(a[0], a[1]);
-            case "split": return real.split(a[0]);
-            case "unit": return real.unit(a[0]);
-            case "imports": return real.imports(a[0], a[1], a[2], a[3]);
-            case "meaning": return real.meaning(a[0], a[1]);
-            case "memberOf": return real.memberOf(a[0], a[1], a[2]);
-            case "graph": return real.graph(a[0], a[1] == 1);
-            case "has": return real.has(a[0], a[1] == 1, a[2]);
-            case "provider": return real.provider(a[0], a[1], a[2]);
-            case "layer": return real.layer(a[0], a[1], a[2] == 1);
-            case "loader": return real.loader(a[0], a[1]);
-            case "finds": return real.finds(a[0], a[1], a[2], a[3]);
-            default: return real.count(a[0]);
-        }
     }
 
     private int plainAnswer(int which, int[] a) {
