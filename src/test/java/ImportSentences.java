@@ -173,6 +173,19 @@ final class ImportSentences {
             pack 0 4
             imports 0 PACK 4 0 = 3 // another one of its MODULE, without TYPES
             """),
+        Run.of("15 rule 1: no PACKAGE that it SEES has the NAME (1), of the NAME 0, too", """
+            module
+            pack 0 5
+            unit 0
+            imports 0 PACK 0 0 = rule1
+            """),
+        Run.of("15 rule 1: no PACKAGE that it SEES has the NAME (1), of thirty", """
+            module
+            30 times pack 0 #+1
+            unit 0
+            imports 0 PACK 0 0 = rule1
+            imports 0 PACK 30 0 = 1
+            """),
         Run.of("15 rule 2 of 0: another TYPE of this NAME is imported so", TWO_MODULES + """
             type 2 10 CLASS open NONE // 2
             type 0 10 CLASS open NONE // 3
@@ -293,6 +306,30 @@ final class ImportSentences {
             meaning 0 10 = NONE // another PACKAGE
             imports 0 TYPE 1 0 = 4
             meaning 0 10 = NONE // another TYPE
+            """),
+        Run.of("16 NONE: no TYPE of the NAME 0, in a PACKAGE that is imported", """
+            module
+            2 times pack 0 #
+            unit 1
+            imports 0 PACK 0 0 = 1
+            meaning 0 0 = NONE
+            type 0 1 CLASS open NONE
+            meaning 0 0 = NONE
+            type 0 0 CLASS open NONE
+            meaning 0 0 = 1
+            """),
+        Run.of("16 NONE: no TYPE of the NAME, of forty", """
+            module
+            3 times pack 0 #
+            unit 2
+            imports 0 PACK 0 0 = 1
+            imports 0 PACK 1 0 = 2
+            30 times type 0 # CLASS open NONE = #
+            10 times type 1 #+20 CLASS open NONE = #+30
+            meaning 0 30 = NONE
+            meaning 0 0 = 0
+            meaning 0 20 = TWO
+            meaning 0 29 = TWO
             """),
         Run.of("16 the TYPE of IMPORT 0; else the TYPE of its own PACKAGE; else of IMPORTS 1", TWO_MODULES + """
             type 2 10 CLASS open NONE // 2
